@@ -840,11 +840,11 @@ public final class StrandLoaves {
             int found = 0;
             int seen = 0;
             for (int start = 0; start < strands; start++) {
-                if ((seen & 1 << start) == 0) {
+                if ((seen & (1 << start)) == 0) {
                     found++;
                 }
                 int place = start;
-                for (int steps = 0; steps < strands && (seen & 1 << place) == 0; steps++) {
+                for (int steps = 0; steps < strands && (seen & (1 << place)) == 0; steps++) {
                     seen |= 1 << place;
                     place = ends.at(place);
                 }
