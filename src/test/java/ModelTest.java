@@ -72,7 +72,7 @@ public final class ModelTest {
     }
 
     private static String loafText(int mostCrossings) {
-        int strands = 2 + next(6);
+        int strands = 2 + next(next(2) == 0 ? 2 : 6);
         StringBuilder text = new StringBuilder().append(strands).append(':');
         int crossings = next(mostCrossings + 1);
         int bias = next(4);
@@ -82,7 +82,7 @@ public final class ModelTest {
         return text.toString();
     }
 
-    private static String worksText(int parts) {
+    private String worksText(int parts) {
         StringBuilder text = new StringBuilder();
         for (int i = 0; i < parts; i++) {
             char letter = "xxxxmtrljjz".charAt(next(11));
@@ -96,8 +96,19 @@ public final class ModelTest {
         return text.toString();
     }
 
-    private static char loafDigit() {
-        return (char) ('0' + next(next(3) == 0 ? 6 : 3));
+    /** Mostly a loaf that is there, so that runs do not end at the first part. */
+    private char loafDigit() {
+        return (char) ('0' + next(next(12) == 0 ? 6 : Math.max(1, model.count(0))));
+    }
+
+    /** Some runs begin with many loaves, of few strands or of many, the others with none. */
+    private void begin() {
+        int first = next(8);
+        for (int i = 0; i < first; i++) {
+            same(9, "clearBuffer()", loaves::clearBuffer, model::clearBuffer);
+            type(loafText(next(2) == 0 ? 24 : 6));
+            same(2, "lay()", loaves::lay, model::lay);
+        }
     }
 
     private static String spoilt(String text) {
@@ -126,9 +137,9 @@ public final class ModelTest {
         int a = number(model.count(0) == 0 ? 5 : model.count(0) - 1);
         int b = number(next(4) == 0 ? 6 : 2);
         boolean right = next(3) != 0;
-        switch (next(30)) {
+        switch (next(36)) {
             case 0, 1 -> readText(false);
-            case 2, 3, 4 -> readText(true);
+            case 2, 3, 4, 22, 23 -> readText(true);
             case 5 -> same(3, "bake(" + a + ")", () -> loaves.bake(a), () -> model.bake(a));
             case 6, 7, 8, 9, 10 -> same(4, "cross(" + a + ", " + b + ", " + right + ")",
                     () -> loaves.cross(a, b, right), () -> model.cross(a, b, right));
@@ -190,6 +201,7 @@ public final class ModelTest {
         for (int run = 0; run < RUNS; run++) {
             seed = run;
             ModelTest test = new ModelTest();
+            test.begin();
             while (test.done.size() < CALLS) {
                 test.step();
             }
