@@ -8,15 +8,21 @@ final class Checks {
 
     private static int made = 0;
     private static int wrong = 0;
+    private static String test = "";
 
     private Checks() {
+    }
+
+    /** What is wrong from here on is told with the name of this test. */
+    static void begin(String name) {
+        test = name + ": ";
     }
 
     static void due(String call, long got, long want) {
         made++;
         if (got != want) {
             wrong++;
-            System.out.println(call + " answered " + got + ", due is " + want);
+            System.out.println(test + call + " answered " + got + ", due is " + want);
         }
     }
 
@@ -28,7 +34,7 @@ final class Checks {
         made++;
         if (!isSo) {
             wrong++;
-            System.out.println("it is not so that " + what);
+            System.out.println(test + "it is not so that " + what);
         }
     }
 
