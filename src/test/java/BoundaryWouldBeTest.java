@@ -218,6 +218,7 @@ public final class BoundaryWouldBeTest {
         dueAlike("2:a+", "2:a-", 2);
         dueAlike("3:a+b-", "3:b+a-", 3);
         dueAlike("3:a+b-a+", "3:a-b+a-", 2);
+        dueAlike("5:a+d-", "5:a-d+", 2);
     }
 
     @Says("0 otherwise.")

@@ -44,12 +44,16 @@ public final class LanguageTest {
             long digest()
             """;
 
+    private static final String[] HEADINGS = {"loaves", "texts", "undo, the snapshot", "looks; nothing is changed",
+        "what would be; nothing is changed"};
+
     // What the class may name of the library; any other capital word before a dot is refused.
     private static final Set<String> LIBRARY = Set.of("Math.min", "Math.floorMod", "System.arraycopy");
 
     public static void main(String[] args) throws IOException {
         face();
         membersOfAll();
+        headings(Files.readString(SOURCE));
         String code = withoutTexts(Files.readString(SOURCE));
         words(code);
         library(code);
@@ -89,6 +93,15 @@ public final class LanguageTest {
         String thrown = Arrays.stream(method.getExceptionTypes())
                 .map(Class::getSimpleName).collect(Collectors.joining(", "));
         return (method.getReturnType().getSimpleName() + " " + method.getName() + parameters + " " + thrown).trim();
+    }
+
+    private static void headings(String source) {
+        int from = 0;
+        for (String heading : HEADINGS) {
+            from = source.indexOf("    // ---- " + heading + "\n", from);
+            Checks.good("the calls stand under the heading " + heading, from >= 0);
+            from = Math.max(from, 0);
+        }
     }
 
     private static void membersOfAll() {
@@ -137,8 +150,8 @@ public final class LanguageTest {
             Checks.good("the class does without " + signs, !code.contains(signs));
         }
         Checks.good("there is no static initialiser", !Pattern.compile("static\\s*\\{").matcher(code).find());
-        Matcher thrown = Pattern.compile("throw\\s+(?!new (IllegalState|IllegalArgument|IndexOutOfBounds)Exception\\(\"\"\\);)")
-                .matcher(code);
+        String due = "new (IllegalState|IllegalArgument|IndexOutOfBounds)Exception\\(\"\"\\);";
+        Matcher thrown = Pattern.compile("throw\\s+(?!" + due + ")").matcher(code);
         Checks.good("each throw is of a new exception that the face names", !thrown.find());
         Checks.good("the file has signs 1 to 126 alone", code.chars().allMatch(c -> c > 0 && c < 127));
     }

@@ -26,6 +26,7 @@ final class Model {
 
     /** A stop of a call; its reason is that of stopped(1), where there is one. */
     static final class Refused extends Exception {
+        private static final long serialVersionUID = 1L;
         final int reason;
 
         Refused(int reason) {

@@ -42,6 +42,9 @@ public final class ModelTest {
     private boolean isGood = true;
 
     private void same(int promise, String call, LongSupplier ours, LongSupplier theirs) {
+        if (done.size() >= CALLS) {
+            return;
+        }
         String got = answer(ours);
         String want = answer(theirs);
         done.add(call + " = " + got);

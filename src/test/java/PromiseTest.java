@@ -180,7 +180,8 @@ public final class PromiseTest {
     }
 
     private static void changingWithoutDough() {
-        StrandLoaves x = Checks.with(FIRST_ABOVE_24, "3:" + "a+b+b-a-".repeat(4), "3:" + "a+b+b-a-".repeat(3) + "a+b+b-");
+        StrandLoaves x = Checks.with(FIRST_ABOVE_24, "3:" + "a+b+b-a-".repeat(4),
+                "3:" + "a+b+b-a-".repeat(3) + "a+b+b-");
         for (int loaf = 0; loaf <= 1; loaf++) {
             int which = loaf;
             Checks.throwing(x, "6: change(" + loaf + ", 0) without dough", Checks.STATE, () -> x.change(which, 0));
@@ -454,7 +455,8 @@ public final class PromiseTest {
         int[][] want = {{1, 1, 0, 28, 3}, {2, 0, 1, 29, 0}, {3, 1, 0, 28, 1}, {0, 1, 2, 26, 2}, {-1, -1, -1, -1, -1}};
         for (int strand = 0; strand < want.length; strand++) {
             for (int what = 0; what <= 4; what++) {
-                Checks.due("17: strand(0, " + strand + ", " + what + ")", x.strand(0, strand, what), want[strand][what]);
+                Checks.due("17: strand(0, " + strand + ", " + what + ")", x.strand(0, strand, what),
+                        want[strand][what]);
             }
         }
         Checks.due("17: strand(0, 6, 4)", x.strand(0, 6, 4), -1);
@@ -624,7 +626,8 @@ public final class PromiseTest {
         for (int loaf = 0; loaf < want.length; loaf++) {
             Checks.due("24: period(" + loaf + ")", x.period(loaf), want[loaf]);
         }
-        StrandLoaves y = Checks.with("5:a+b+d-", "7:a+b+c+d+e+", "7:a+b+c+d+f+", "7:a+b+d+e+", "4:a+a-c+c+", "6:a+b+c+d+");
+        StrandLoaves y = Checks.with("5:a+b+d-", "7:a+b+c+d+e+", "7:a+b+c+d+f+", "7:a+b+d+e+", "4:a+a-c+c+",
+                "6:a+b+c+d+");
         int[] more = {6, 6, 10, 3, 1, 5};
         for (int loaf = 0; loaf < more.length; loaf++) {
             Checks.due("24: period(" + loaf + ")", y.period(loaf), more[loaf]);
