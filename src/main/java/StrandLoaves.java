@@ -141,12 +141,14 @@ public final class StrandLoaves {
         history.save(board);
         int done = 0;
         int reason = CAN;
-        for (int start = 0; start < text.size() && reason == CAN; start += text.partSize(start) + 1) {
+        int start = 0;
+        for (int part = 0; part < text.parts() && reason == CAN; part++) {
             reason = tryPart(start);
             if (reason == CAN) {
                 doTriedPart(start);
                 done++;
             }
+            start += text.partSize(start) + 1;
         }
         board.setStop(reason == CAN ? NONE : done, reason == CAN ? NONE : reason);
         text.clear();
@@ -1226,6 +1228,15 @@ public final class StrandLoaves {
                 default:
                     return NONE;
             }
+        }
+
+        /** How many parts the works have; the text must be complete works. */
+        int parts() {
+            int found = 1;
+            for (int i = 0; i < size; i++) {
+                found += signAt(i) == ';' ? 1 : 0;
+            }
+            return found;
         }
 
         int partSize(int start) {

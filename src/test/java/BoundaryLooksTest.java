@@ -428,6 +428,16 @@ public final class BoundaryLooksTest {
     }
 
     @Says("5: changes so far (by change() and such parts); ")
+    static void promise20_changesThatLeaveTheWordAsItIsAreCountedToo() {
+        StrandLoaves x = Checks.with("4:b+", "2:");
+        x.change(0, 1);
+        x.change(0, 3);
+        Checks.works(x, "t0;l0;m1;t1;r1;l1");
+        Checks.dueText(x, 0, "4:b+");
+        Checks.due("count(5)", x.count(5), 8);
+    }
+
+    @Says("5: changes so far (by change() and such parts); ")
     static void promise20_changesOfALoafThatGoesStayCounted() {
         StrandLoaves x = Checks.with("2:");
         x.change(0, 0);

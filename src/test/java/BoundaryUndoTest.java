@@ -114,6 +114,21 @@ public final class BoundaryUndoTest {
         }
     }
 
+    @Says("all, ")
+    static void terms_theChangesSoFarAreOfTheSnapshotToo() {
+        StrandLoaves x = Checks.with("2:");
+        x.change(0, 0);
+        x.keep();
+        Checks.works(x, "m0;t0");
+        Checks.due("count(5)", x.count(5), 3);
+        x.restore();
+        Checks.due("count(5) behind restore()", x.count(5), 1);
+        x.undo();
+        Checks.due("count(5) behind undo() of restore()", x.count(5), 3);
+        x.undo();
+        Checks.due("count(5) behind undo() of work()", x.count(5), 1);
+    }
+
     @Says("also the latest stop, ")
     static void terms_theLatestStopIsBroughtBack() {
         StrandLoaves x = Checks.with("2:");

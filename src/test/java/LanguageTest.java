@@ -57,6 +57,7 @@ public final class LanguageTest {
         String code = withoutTexts(Files.readString(SOURCE));
         words(code);
         library(code);
+        loops(code);
         lengths(code);
         Checks.end("LanguageTest");
     }
@@ -164,6 +165,20 @@ public final class LanguageTest {
             Checks.good(named.group() + " is of the file or of LANGUAGE.md",
                     own.contains(named.group(1)) || LIBRARY.contains(named.group()));
         }
+    }
+
+    /** Rule 9: the end of a loop is seen from its own lines, so a counter goes by a written step to a bound. */
+    private static void loops(String code) {
+        Checks.good("the class does without while and do", !Pattern.compile("\\b(while|do)\\b").matcher(code).find());
+        Pattern counted = Pattern.compile("for \\(int (\\w+) = [^;]+; [^;|]*\\b\\1 (<|<=|>|>=) [^;|]+;"
+                + " \\1(\\+\\+|--| \\+= [1-9]\\d*)\\) \\{");
+        Matcher loop = Pattern.compile("\\bfor\\b[^{]*\\{").matcher(code);
+        int loops = 0;
+        while (loop.find()) {
+            loops++;
+            Checks.good("the end of this loop can be seen: " + loop.group(), counted.matcher(loop.group()).matches());
+        }
+        Checks.good("the loops are found", loops > 0);
     }
 
     private static void lengths(String code) {

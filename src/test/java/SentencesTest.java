@@ -74,11 +74,8 @@ public final class SentencesTest {
     }
 
     public static void main(String[] args) throws IOException {
-        if (!Files.exists(DOC)) {
-            System.out.println("SentencesTest: " + DOC + " is not here, so no words are looked for");
-            return;
-        }
-        Map<String, Section> sections = sections(Files.readString(DOC));
+        Checks.good(DOC + " is there", Files.exists(DOC));
+        Map<String, Section> sections = sections(Files.exists(DOC) ? Files.readString(DOC) : "");
         int tests = 0;
         for (Class<?> one : TESTS) {
             for (Method test : Boundaries.testsOf(one)) {
